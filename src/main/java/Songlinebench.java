@@ -24,7 +24,6 @@ public final class Songlinebench {
     private static final int TOP_VALUE = 1000000;
     private static final int PLACES = 16;
     private static final int ALL_PLACES = 65535;
-    private static final int RIGHTS = 5;
     private static final int ALL_RIGHTS = 31;
     private static final int LAST_MONTH = 5000;
     private static final int LONGEST_PASS = 600;

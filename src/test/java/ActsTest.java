@@ -28,6 +28,8 @@ public final class ActsTest {
             Due.due("act", act, x.act(0, 1 << act % 16, 1 << act % 5, YIELD, NONE));
         }
         Due.refused("a forty-first act", Due.STATE, () -> x.act(0, 1, 1, YIELD, NONE));
+        leaves("with 40 acts", 31, x, 0, 0);
+        Due.due("giveUp of the last", 0, x.giveUp(39));
         Due.refused("a forty-first act of a month to come", Due.ARGUMENT, () -> x.act(1, 1, 1, YIELD, NONE));
     }
 

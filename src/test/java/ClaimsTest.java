@@ -13,6 +13,7 @@ public final class ClaimsTest {
         dismissedAtOnce();
         revise();
         rivals();
+        twelveClaims();
         holdersAndExclude();
         rightsOfAllClaims();
         mayYield();
@@ -238,6 +239,19 @@ public final class ClaimsTest {
         x.revise(1);
         x.determine(2);
         Due.due("rivals DISMISSED", 0, x.ofClaim(0, 2));
+    }
+
+    private static void twelveClaims() {
+        Songlinebench x = bench();
+        for (int claim = 0; claim < 12; claim++) {
+            Due.due("claim", claim, determined(x, claim % 2, 0b0001, claim < 10 ? 1 : 2));
+        }
+        x.notice(1, 1, Songlinebench.YIELD, NONE, false);
+        Due.due("rivals of the first", 0b101010101010, x.ofClaim(0, 2));
+        Due.due("rivals of the last", 0b010101010101, x.ofClaim(11, 2));
+        Due.due("holders", 3, x.holders(0));
+        Due.due("rights by the last", 2, x.may(1, 0, 1));
+        Due.due("parties", 3, x.ofNotice(0, 1));
     }
 
     private static void holdersAndExclude() {

@@ -8,6 +8,8 @@ public final class MarksTest {
         weights();
         gaps();
         gapsInAnyOrder();
+        marksOfOthersBetween();
+        fullTables();
         explained();
         explainedInParts();
         isProvedRefused();
@@ -108,6 +110,48 @@ public final class MarksTest {
                 x.mark(0, 2, order[mark], 4);
             }
             Due.due("proved", true, x.isProved(0, 2));
+        }
+    }
+
+    /** Marks of earlier months that come later leave those of other peoples and places as they are. */
+    private static void marksOfOthersBetween() {
+        Songlinebench x = new Songlinebench();
+        x.people(0);
+        x.people(0);
+        x.pass(400);
+        x.mark(0, 0, 400, 9);
+        x.mark(0, 0, 399, 1);
+        x.mark(1, 1, 398, 9);
+        x.mark(1, 0, 397, 8);
+        x.mark(1, 1, 396, 1);
+        x.mark(0, 1, 395, 9);
+        Due.due("people 0, place 0", true, x.isProved(0, 0));
+        Due.due("people 1, place 1", true, x.isProved(1, 1));
+        Due.due("people 1, place 0", false, x.isProved(1, 0));
+        Due.due("people 0, place 1", false, x.isProved(0, 1));
+        x.mark(1, 0, 0, 2);
+        x.mark(0, 1, 0, 1);
+        Due.due("people 1, place 0, by 10", true, x.isProved(1, 0));
+        Due.due("people 0, place 1, by 10", true, x.isProved(0, 1));
+    }
+
+    private static void fullTables() {
+        Songlinebench x = new Songlinebench();
+        for (int people = 0; people < 6; people++) {
+            x.people(0);
+            for (int time = 0; time < 8; time++) {
+                x.explain(people, 0, 1);
+            }
+        }
+        for (int mark = 0; mark < 60; mark++) {
+            x.mark(mark % 6, 15, 0, 1);
+        }
+        for (int people = 0; people < 6; people++) {
+            Due.due("ten marks", true, x.isProved(people, 15));
+        }
+        x.pass(481);
+        for (int people = 0; people < 6; people++) {
+            Due.due("a gap that none of eight explains", false, x.isProved(people, 15));
         }
     }
 

@@ -198,6 +198,7 @@ public final class NoticesTest {
 
     private static void agreedWithoutParties() {
         Songlinebench x = bench();
+        x.pass(50);
         x.notice(1, 1, YIELD, NONE, false);
         x.pass(3);
         Due.refused("proceed at 3 months", Due.STATE, () -> x.proceed(0));
@@ -250,6 +251,7 @@ public final class NoticesTest {
 
     private static void decide() {
         Songlinebench x = bench();
+        x.pass(50);
         registered(x, 0, 1);
         x.notice(1, 1, YIELD, NONE, false);
         x.notice(1, 2, YIELD, NONE, false);

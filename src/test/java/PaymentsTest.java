@@ -10,6 +10,7 @@ public final class PaymentsTest {
         rounding();
         largest();
         tookByOthers();
+        fortyActs();
         tookAtEachPlace();
         notOwed();
         pay();
@@ -129,6 +130,17 @@ public final class PaymentsTest {
         Due.due("the earlier one paid for", 755, x.owed(act));
         x.giveUp(earlier);
         Due.due("the earlier one given up", 1510, x.owed(act));
+    }
+
+    private static void fortyActs() {
+        Songlinebench x = bench(1);
+        x.value(0, 1000);
+        for (int act = 0; act < 40; act++) {
+            x.act(0, 1, act < 39 ? 30 : 31, EXTINGUISHES, NONE);
+        }
+        Due.due("owed for the first", 900 + 450, x.owed(0));
+        Due.due("owed for the last but one", 0, x.owed(38));
+        Due.due("owed for the last", 100 + 50, x.owed(39));
     }
 
     private static void tookAtEachPlace() {

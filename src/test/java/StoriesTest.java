@@ -24,6 +24,12 @@ public final class StoriesTest {
         Due.refused("an eleventh story", Due.STATE, () -> x.story(0));
         Due.refused("an eleventh story of no people", Due.INDEX, () -> x.story(2));
         Due.refused("part(10, 0, 0)", Due.INDEX, () -> x.part(10, 0, 0));
+        x.person(NONE, NONE);
+        for (int part = 0; part < 120; part++) {
+            x.part(part / 12, part % 16, 0);
+        }
+        Due.due("told all parts of all stories", 65535, x.told(0));
+        Due.due("hears the last part of the last story", 119 % 16, x.hears(0, 9, 11));
     }
 
     private static void part() {
