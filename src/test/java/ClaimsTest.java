@@ -315,6 +315,11 @@ public final class ClaimsTest {
         Due.due("that given up", 1, x.may(0, 0, 0));
         x.giveUp(act);
         Due.due("both given up", 2, x.may(0, 0, 0));
+        for (int more = 2; more < 40; more++) {
+            x.act(0, 0b0001, 0b00010, Songlinebench.YIELD, NONE);
+        }
+        Due.due("PASS, with 40 acts", 2, x.may(0, 0, 0));
+        Due.due("HUNT, with 40 acts", 1, x.may(0, 0, 1));
     }
 
     private static void asked() {
