@@ -1,0 +1,17 @@
+/**
+ * Each sentence of the document that names a boundary case: what is taken last and refused first on either side of a
+ * limit, which exception goes first, and that a refused call changes nothing.
+ */
+public final class EdgesTest {
+    public static void main(String[] args) {
+        EdgesOfPeoples.tests();
+        EdgesOfStories.tests();
+        EdgesOfMarks.tests();
+        EdgesOfActs.tests();
+        EdgesOfClaims.tests();
+        EdgesOfNotices.tests();
+        EdgesOfPayments.tests();
+        Document.isQuotedWhole();
+        Due.end();
+    }
+}
