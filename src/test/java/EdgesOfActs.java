@@ -34,7 +34,8 @@ final class EdgesOfActs extends Edge {
         });
         test(15, "`places`: a set of places, not empty", () -> {
             takes("the place 0 alone", 30, MONTH7, x -> x.act(7, 1, 1, EXTINGUISHES, NONE), x -> x.left(0, 7));
-            takes("the place 0 alone, at the place 15", 31, MONTH7, x -> x.act(7, 1, 1, EXTINGUISHES, NONE), x -> x.left(15, 7));
+            takes("the place 0 alone, at the place 15", 31, MONTH7, x -> x.act(7, 1, 1, EXTINGUISHES, NONE),
+                    x -> x.left(15, 7));
             takes("the place 15 alone", 30, MONTH7, x -> x.act(7, 1 << 15, 1, EXTINGUISHES, NONE), x -> x.left(15, 7));
             takes("all", 30, MONTH7, x -> x.act(7, 65535, 1, EXTINGUISHES, NONE), x -> x.left(15, 7));
         });
@@ -59,7 +60,8 @@ final class EdgesOfActs extends Edge {
         });
         test(15, "Acts are numbered from 0, at most 40", () -> {
             for (int count = 0; count < 40; count++) {
-                takes("act", count, EMPTY.times(count, (x, n) -> x.act(0, 1, 1, YIELD, NONE)), x -> x.act(0, 1, 1, YIELD, NONE));
+                takes("act", count, EMPTY.times(count, (x, n) -> x.act(0, 1, 1, YIELD, NONE)),
+                        x -> x.act(0, 1, 1, YIELD, NONE));
             }
         });
         test(15, "an act is of a month, for some places and some rights, and EXTINGUISHES these, SUSPENDS them, up to a"
@@ -75,15 +77,21 @@ final class EdgesOfActs extends Edge {
 
     private static void actRefused() {
         test(15, "Throws `IllegalArgumentException` if an argument is out of range", () -> {
-            refuses("month", ARGUMENT, RICH, (x, n) -> x.act(n, 1, 1, EXTINGUISHES, NONE), -1, 507, 5000, LOWEST, HIGHEST);
+            refuses("month", ARGUMENT, RICH, (x, n) -> x.act(n, 1, 1, EXTINGUISHES, NONE), -1, 507, 5000, LOWEST,
+                    HIGHEST);
             refuses("month at 0", ARGUMENT, EMPTY, (x, n) -> x.act(n, 1, 1, YIELD, NONE), -1, 1);
             refuses("month at 5000", ARGUMENT, EMPTY.later(5000), (x, n) -> x.act(n, 1, 1, YIELD, NONE), -1, 5001);
-            refuses("month that a last month would fit", ARGUMENT, RICH, (x, n) -> x.act(n, 1, 1, SUSPENDS, 5000), -1, 507);
-            refuses("places", ARGUMENT, RICH, (x, n) -> x.act(506, n, 1, EXTINGUISHES, NONE), 0, -1, 65536, 65537, LOWEST, HIGHEST);
-            refuses("rights", ARGUMENT, RICH, (x, n) -> x.act(506, 1, n, EXTINGUISHES, NONE), 0, -1, 32, 33, LOWEST, HIGHEST);
+            refuses("month that a last month would fit", ARGUMENT, RICH, (x, n) -> x.act(n, 1, 1, SUSPENDS, 5000), -1,
+                    507);
+            refuses("places", ARGUMENT, RICH, (x, n) -> x.act(506, n, 1, EXTINGUISHES, NONE), 0, -1, 65536, 65537,
+                    LOWEST, HIGHEST);
+            refuses("rights", ARGUMENT, RICH, (x, n) -> x.act(506, 1, n, EXTINGUISHES, NONE), 0, -1, 32, 33, LOWEST,
+                    HIGHEST);
             refuses("does", ARGUMENT, RICH, (x, n) -> x.act(506, 1, 1, n, NONE), -1, 3, LOWEST, HIGHEST);
-            refuses("does, with a last month", ARGUMENT, RICH, (x, n) -> x.act(506, 1, 1, n, 600), -1, 3, LOWEST, HIGHEST);
-            refuses("last", ARGUMENT, RICH, (x, n) -> x.act(300, 1, 1, SUSPENDS, n), NONE, 0, 299, 5001, LOWEST, HIGHEST);
+            refuses("does, with a last month", ARGUMENT, RICH, (x, n) -> x.act(506, 1, 1, n, 600), -1, 3, LOWEST,
+                    HIGHEST);
+            refuses("last", ARGUMENT, RICH, (x, n) -> x.act(300, 1, 1, SUSPENDS, n), NONE, 0, 299, 5001, LOWEST,
+                    HIGHEST);
             refuses("last at 0", ARGUMENT, EMPTY, (x, n) -> x.act(0, 1, 1, SUSPENDS, n), NONE, 5001);
             refuses("last of one that EXTINGUISHES", ARGUMENT, RICH, (x, n) -> x.act(300, 1, 1, EXTINGUISHES, n),
                     0, -2, 300, 506, 5000, LOWEST, HIGHEST);
@@ -93,9 +101,12 @@ final class EdgesOfActs extends Edge {
         test(15, "Throws `IllegalStateException` if there are 40", () -> {
             Scene most = EMPTY.times(39, (x, n) -> x.act(0, 1, 1, YIELD, NONE));
             takes("the fortieth", 39, most, x -> x.act(0, 1, 1, EXTINGUISHES, NONE));
-            refuses("the forty-first", STATE, most.then(x -> x.act(0, 1, 1, YIELD, NONE)), x -> x.act(0, 1, 1, EXTINGUISHES, NONE));
-            refuses("the forty-first of a full one", STATE, FULL, (x, n) -> x.act(n, 65535, 31, EXTINGUISHES, NONE), 0, 6);
-            refuses("another, though one was given up", STATE, FULL.then(x -> x.giveUp(0)), x -> x.act(0, 1, 1, YIELD, NONE));
+            refuses("the forty-first", STATE, most.then(x -> x.act(0, 1, 1, YIELD, NONE)),
+                    x -> x.act(0, 1, 1, EXTINGUISHES, NONE));
+            refuses("the forty-first of a full one", STATE, FULL, (x, n) -> x.act(n, 65535, 31, EXTINGUISHES, NONE),
+                    0, 6);
+            refuses("another, though one was given up", STATE, FULL.then(x -> x.giveUp(0)),
+                    x -> x.act(0, 1, 1, YIELD, NONE));
         });
         test(15, FIRST_NAMED, () -> {
             refuses("month, full", ARGUMENT, FULL, (x, n) -> x.act(n, 1, 1, YIELD, NONE), -1, 7);
@@ -127,7 +138,8 @@ final class EdgesOfActs extends Edge {
             takes("a void one", 31, one, x -> x.left(0, 12));
             takes("a void one, in a month ahead of that", 31, one, x -> x.left(0, 3));
             takes("a validated one, in its month", 30, one, x -> x.voids(0, false), x -> x.left(0, 3));
-            takes("a validated one, in the month in which it was void", 30, one, x -> x.voids(0, false), x -> x.left(0, 7));
+            takes("a validated one, in the month in which it was void", 30, one, x -> x.voids(0, false),
+                    x -> x.left(0, 7));
             takes("a validated one, ahead of its month", 31, one, x -> x.voids(0, false), x -> x.left(0, 2));
         });
         test(16, "Throws `IndexOutOfBoundsException` if there is no such act", () -> {
@@ -159,12 +171,15 @@ final class EdgesOfActs extends Edge {
             refuses("again in the month 0", STATE, EMPTY.then(x -> x.act(0, 1, 1, YIELD, NONE)).then(x -> x.giveUp(0)),
                     x -> x.giveUp(0));
             refuses("again later", STATE, two.then(x -> x.giveUp(0)).later(3), x -> x.giveUp(0));
-            refuses("again, a void one", STATE, two.then(x -> x.giveUp(0)).then(x -> x.voids(0, true)), x -> x.giveUp(0));
-            takes("a void one", 6 + 500, RICH.then(x -> x.act(0, 1, 1, YIELD, NONE)).then(x -> x.voids(7, true)), x -> x.giveUp(7));
+            refuses("again, a void one", STATE, two.then(x -> x.giveUp(0)).then(x -> x.voids(0, true)),
+                    x -> x.giveUp(0));
+            takes("a void one", 6 + 500, RICH.then(x -> x.act(0, 1, 1, YIELD, NONE)).then(x -> x.voids(7, true)),
+                    x -> x.giveUp(7));
             takes("another", 106, RICH, x -> x.giveUp(5));
         });
         test(17, "It may be given up, for good", () -> {
-            takes("validated behind that", 31, two.then(x -> x.giveUp(0)).then(x -> x.voids(0, true)), x -> x.voids(0, false),
+            takes("validated behind that", 31, two.then(x -> x.giveUp(0)).then(x -> x.voids(0, true)),
+                    x -> x.voids(0, false),
                     x -> x.left(0, 7));
             takes("at the end of all months", 31, two, x -> x.giveUp(0), x -> x.left(0, 5000));
         });
@@ -245,7 +260,8 @@ final class EdgesOfActs extends Edge {
             takes("at a place of none", 31, mixed, x -> left.of(x, 2, 6));
             takes("none", 0, mixed, x -> x.act(0, 1, 0b11100, EXTINGUISHES, NONE), x -> left.of(x, 0, 6));
             Scene most = EMPTY.times(39, (x, n) -> x.act(0, 1, 0b00001, EXTINGUISHES, NONE));
-            takes("by the fortieth", 0b01110, most, x -> x.act(0, 1, 0b10000, EXTINGUISHES, NONE), x -> left.of(x, 0, 0));
+            takes("by the fortieth", 0b01110, most, x -> x.act(0, 1, 0b10000, EXTINGUISHES, NONE),
+                    x -> left.of(x, 0, 0));
             takes("by the first", 0b01110, EMPTY.then(x -> x.act(0, 1, 0b10000, EXTINGUISHES, NONE))
                     .times(39, (x, n) -> x.act(0, 1, 0b00001, EXTINGUISHES, NONE)), x -> left.of(x, 0, 0));
         });

@@ -34,7 +34,8 @@ final class EdgesOfClaims extends Edge {
         test(20, "`people`: the number of a people", () -> {
             takes("the first", 0, EMPTY.peoples(6), x -> x.claim(0, 1, 1));
             takes("the last", 0, EMPTY.peoples(6), x -> x.claim(5, 1, 1));
-            takes("the last, who holds it then", 1 << 5, EMPTY.peoples(6).proved(5, 0).determined(0, 5, 1, 1), x -> x.holders(0));
+            takes("the last, who holds it then", 1 << 5, EMPTY.peoples(6).proved(5, 0).determined(0, 5, 1, 1),
+                    x -> x.holders(0));
         });
         test(20, "`places`: a set of places, not empty", () -> {
             takes("the place 0", 1, TWO.determined(0, 0, 1, 1), x -> x.ofClaim(0, 1));
@@ -61,6 +62,15 @@ final class EdgesOfClaims extends Edge {
             for (int count = 0; count < 12; count++) {
                 takes("claim", count, ONE.times(count, (x, n) -> x.claim(0, 1, 1)), x -> x.claim(0, 65535, 31));
             }
+            Scene twelve = TWO.times(11, (x, n) -> x.claim(0, 1, 1))
+                    .then(x -> x.notice(1, 1, Songlinebench.YIELD, NONE, true))
+                    .determined(11, 1, 1, 31);
+            takes("the right of the twelfth", 2, twelve, x -> x.may(1, 0, 4));
+            takes("the holder by the twelfth", 2, twelve, x -> x.holders(0));
+            takes("the party by the twelfth", 2, twelve, x -> x.ofNotice(0, 1));
+            takes("the rival by the twelfth", 1 << 11, twelve, x -> x.ofClaim(0, 2));
+            takes("no rival of the twelfth", 0, twelve, x -> x.ofClaim(11, 2));
+            takes("no bar by the twelfth", 0, twelve.then(x -> x.vote(0, 10, true)), x -> x.register(10));
         });
     }
 
@@ -109,7 +119,8 @@ final class EdgesOfClaims extends Edge {
             refuses("claim without any", INDEX, EMPTY.peoples(1), x -> vote(x, 0, 0, true));
             refuses("without any", INDEX, EMPTY, x -> vote(x, 0, 0, true));
         });
-        test(21, "Throws `IllegalStateException` if it is not FILED, or the person does not belong to its people", () -> {
+        test(21, "Throws `IllegalStateException` if it is not FILED, or the person does not belong to its people",
+                () -> {
             refuses("DISMISSED", STATE, RICH, x -> vote(x, 1, 0, true));
             refuses("DETERMINED", STATE, RICH, x -> vote(x, 0, 1, true));
             refuses("REGISTERED", STATE, RICH, x -> vote(x, 0, 2, true));
@@ -129,20 +140,23 @@ final class EdgesOfClaims extends Edge {
             takes("yes again, counted once", 1, yes.then(x -> x.person(0, NONE)).then(x -> x.vote(1, 0, false))
                     .then(x -> x.vote(0, 0, true)), x -> x.register(0));
             takes("no instead", 1, yes.then(x -> x.vote(0, 0, false)), x -> x.register(0));
-            takes("yes, no, yes", 0, yes.then(x -> x.vote(0, 0, false)).then(x -> x.vote(0, 0, true)), x -> x.register(0));
+            takes("yes, no, yes", 0, yes.then(x -> x.vote(0, 0, false)).then(x -> x.vote(0, 0, true)),
+                    x -> x.register(0));
         });
     }
 
     private static void register() {
         test(22, "`claim`: the number of a claim", () -> {
-            Scene filed = ONE.times(12, (x, n) -> x.claim(0, 1, 1)).then(x -> x.vote(0, 0, true)).then(x -> x.vote(0, 11, true));
+            Scene filed = ONE.times(12, (x, n) -> x.claim(0, 1, 1)).then(x -> x.vote(0, 0, true))
+                    .then(x -> x.vote(0, 11, true));
             takes("the first", 0, filed, x -> x.register(0));
             takes("the last", 0, filed, x -> x.register(11));
             takes("the last but one", 1, filed, x -> x.register(10));
         });
         test(22, "0 if none does", () -> {
             takes("none", 0, ONE.filed(0, 0, 1, 1), x -> x.register(0));
-            takes("none, so it is REGISTERED", REGISTERED, ONE.filed(0, 0, 1, 1), x -> x.register(0), x -> x.ofClaim(0, 0));
+            takes("none, so it is REGISTERED", REGISTERED, ONE.filed(0, 0, 1, 1), x -> x.register(0),
+                    x -> x.ofClaim(0, 0));
         });
         test(22, "Registers a claim, if no test fails.", () -> {
             Scene fails = ONE.then(x -> x.claim(0, 1, 1)).then(x -> x.register(0));
@@ -199,7 +213,8 @@ final class EdgesOfClaims extends Edge {
         test(22, "2 its people is proved at one of its places, at least", () -> {
             takes("at none", 2, TWO.filed(0, 0, 0b0111111111111110, 31), x -> x.register(0));
             takes("at the lowest of all", 0, ONE.filed(0, 0, 65535, 31), x -> x.register(0));
-            takes("at the highest of all", 0, EMPTY.peoples(1).proved(0, 15).filed(0, 0, 65535, 31), x -> x.register(0));
+            takes("at the highest of all", 0, EMPTY.peoples(1).proved(0, 15).filed(0, 0, 65535, 31),
+                    x -> x.register(0));
             takes("at a place that it does not name", 2, ONE.filed(0, 0, 2, 31), x -> x.register(0));
             takes("by 9", 2, EMPTY.peoples(1).then(x -> x.mark(0, 0, 0, 9)).filed(0, 0, 1, 31), x -> x.register(0));
             takes("another people is", 2, EMPTY.peoples(2).proved(1, 0).filed(0, 0, 1, 31), x -> x.register(0));
@@ -221,13 +236,15 @@ final class EdgesOfClaims extends Edge {
             Scene both = TWO.proved(0, 1).proved(0, 2);
             takes("the same places", 3, both.registered(0, 0, 3, 1).filed(1, 0, 3, 1), x -> x.register(1));
             takes("one place shared", 3, both.registered(0, 0, 3, 1).filed(1, 0, 6, 1), x -> x.register(1));
-            takes("the place 15 shared", 3, both.registered(0, 0, 1 << 15, 1).filed(1, 0, 65535, 1), x -> x.register(1));
+            takes("the place 15 shared", 3, both.registered(0, 0, 1 << 15, 1).filed(1, 0, 65535, 1),
+                    x -> x.register(1));
             takes("no place shared", 0, both.registered(0, 0, 3, 1).filed(1, 0, 4, 1), x -> x.register(1));
             takes("of another people", 0, both.registered(0, 1, 1, 1).filed(1, 0, 1, 1), x -> x.register(1));
             takes("FILED", 0, both.filed(0, 0, 1, 1).filed(1, 0, 1, 1), x -> x.register(1));
             takes("DETERMINED", 0, both.determined(0, 0, 1, 1).filed(1, 0, 1, 1), x -> x.register(1));
             takes("of a higher number", 3, both.filed(0, 0, 1, 1).registered(1, 0, 1, 1), x -> x.register(0));
-            takes("of the last number", 3, both.filed(0, 0, 1, 1).times(10, (x, n) -> x.claim(1, 1, 1)).registered(11, 0, 1, 1),
+            takes("of the last number", 3, both.filed(0, 0, 1, 1)
+                    .times(10, (x, n) -> x.claim(1, 1, 1)).registered(11, 0, 1, 1),
                     x -> x.register(0));
             takes("by a place at which it is not proved", 3, both.registered(0, 0, 0b1001, 1).filed(1, 0, 0b1010, 1),
                     x -> x.register(1));
@@ -238,7 +255,8 @@ final class EdgesOfClaims extends Edge {
 
     private static void determine() {
         test(23, "`claim`: the number of a claim", () -> {
-            Scene registered = EMPTY.peoples(1).times(12, (x, n) -> x.mark(0, n, 0, 9)).times(12, (x, n) -> x.mark(0, n, 0, 9))
+            Scene registered = EMPTY.peoples(1).times(12, (x, n) -> x.mark(0, n, 0, 9))
+                    .times(12, (x, n) -> x.mark(0, n, 0, 9))
                     .times(12, (x, n) -> x.claim(0, 1 << n, 1)).times(12, (x, n) -> x.vote(0, n, true))
                     .times(12, (x, n) -> x.register(n));
             takes("the first", 1, registered, x -> x.determine(0));
@@ -290,14 +308,16 @@ final class EdgesOfClaims extends Edge {
             refuses("DISMISSED", STATE, RICH, x -> x.revise(0));
             refuses("REGISTERED", STATE, RICH, x -> x.revise(2));
             refuses("FILED", STATE, RICH, x -> x.revise(3));
-            refuses("DISMISSED by it", STATE, ONE.determined(0, 0, 1, 1).later(481).then(x -> x.revise(0)), x -> x.revise(0));
+            refuses("DISMISSED by it", STATE, ONE.determined(0, 0, 1, 1).later(481).then(x -> x.revise(0)),
+                    x -> x.revise(0));
         });
         test(24, "Returns how many places are granted, or not, by that, that were not, or were, before.", () -> {
             Scene one = ONE.determined(0, 0, 65535, 1);
             takes("none", 0, one, x -> x.revise(0));
             takes("one won", 1, one.proved(0, 15), x -> x.revise(0));
             takes("one lost", 1, one.later(481), x -> x.revise(0));
-            takes("one won, one lost", 2, one.then(x -> x.mark(0, 15, 0, 9)).later(481).then(x -> x.mark(0, 15, 300, 9)),
+            takes("one won, one lost", 2, one.then(x -> x.mark(0, 15, 0, 9)).later(481)
+                    .then(x -> x.mark(0, 15, 300, 9)),
                     x -> x.revise(0));
             takes("fifteen won", 15, one.times(30, (x, n) -> x.mark(0, n % 15 + 1, 0, 9)), x -> x.revise(0));
             takes("sixteen lost", 16, EMPTY.peoples(1).times(32, (x, n) -> x.mark(0, n % 16, 0, 9))
@@ -358,13 +378,17 @@ final class EdgesOfClaims extends Edge {
             takes("REGISTERED", 1, TWO.registered(0, 0, 1, 1).then(x -> x.claim(1, 1, 1)), x -> x.ofClaim(1, 2));
             takes("DETERMINED", 1, TWO.determined(0, 0, 1, 1).then(x -> x.claim(1, 1, 1)), x -> x.ofClaim(1, 2));
             takes("FILED", 0, TWO.filed(0, 0, 1, 1).then(x -> x.claim(1, 1, 1)), x -> x.ofClaim(1, 2));
-            takes("DISMISSED", 0, TWO.registered(0, 0, 1, 1).then(x -> x.claim(1, 1, 1)).later(481), x -> x.determine(0),
+            takes("DISMISSED", 0, TWO.registered(0, 0, 1, 1).then(x -> x.claim(1, 1, 1)).later(481),
+                    x -> x.determine(0),
                     x -> x.ofClaim(1, 2));
             takes("of its own people", 0, TWO.determined(0, 0, 1, 1).then(x -> x.claim(0, 1, 1)), x -> x.ofClaim(1, 2));
-            takes("by a place that was not granted", 1, TWO.determined(0, 0, 3, 1).then(x -> x.claim(1, 2, 1)), x -> x.ofClaim(1, 2));
+            takes("by a place that was not granted", 1, TWO.determined(0, 0, 3, 1).then(x -> x.claim(1, 2, 1)),
+                    x -> x.ofClaim(1, 2));
             takes("no place shared", 0, TWO.determined(0, 0, 3, 1).then(x -> x.claim(1, 4, 1)), x -> x.ofClaim(1, 2));
-            takes("the place 15 shared", 1, TWO.determined(0, 0, 1 << 15, 1).then(x -> x.claim(1, 65535, 1)), x -> x.ofClaim(1, 2));
-            takes("the last claim", 1 << 11, TWO.times(11, (x, n) -> x.claim(1, 1, 1)).determined(11, 0, 1, 1), x -> x.ofClaim(0, 2));
+            takes("the place 15 shared", 1, TWO.determined(0, 0, 1 << 15, 1).then(x -> x.claim(1, 65535, 1)),
+                    x -> x.ofClaim(1, 2));
+            takes("the last claim", 1 << 11, TWO.times(11, (x, n) -> x.claim(1, 1, 1)).determined(11, 0, 1, 1),
+                    x -> x.ofClaim(0, 2));
             Scene most = TWO.then(x -> x.claim(1, 1, 1));
             for (int claim = 1; claim < 12; claim++) {
                 most = most.determined(claim, 0, 1, 1);
@@ -375,7 +399,8 @@ final class EdgesOfClaims extends Edge {
 
     private static void holders() {
         test(26, "Returns the set of the peoples who hold a place, as bits, that of the people 0 lowest.", () -> {
-            Scene all = EMPTY.peoples(6).times(12, (x, n) -> x.mark(n % 6, 15, 0, 9)).times(6, (x, n) -> x.claim(n, 1 << 15, 1))
+            Scene all = EMPTY.peoples(6).times(12, (x, n) -> x.mark(n % 6, 15, 0, 9))
+                    .times(6, (x, n) -> x.claim(n, 1 << 15, 1))
                     .times(6, (x, n) -> x.vote(n, n, true)).times(6, (x, n) -> x.register(n));
             takes("nobody", 0, EMPTY, x -> x.holders(0));
             takes("nobody, as claims are REGISTERED", 0, all, x -> x.holders(15));
@@ -388,9 +413,11 @@ final class EdgesOfClaims extends Edge {
             takes("the first place", 1, TWO.determined(0, 0, 65535, 1), x -> x.holders(0));
             takes("the last place", 1, TWO.determined(0, 0, 65535, 1), x -> x.holders(15));
             takes("a place that was not granted", 0, TWO.determined(0, 0, 65535, 1), x -> x.holders(7));
-            takes("by one of two claims", 1, TWO.determined(0, 0, 1, 1).determined(1, 0, 1 << 15, 1), x -> x.holders(15));
+            takes("by one of two claims", 1, TWO.determined(0, 0, 1, 1).determined(1, 0, 1 << 15, 1),
+                    x -> x.holders(15));
             takes("as long as it is not revised", 1, TWO.determined(0, 0, 1, 1).later(481), x -> x.holders(0));
-            takes("no more, as it was DISMISSED", 0, TWO.determined(0, 0, 1, 1).later(481), x -> x.revise(0), x -> x.holders(0));
+            takes("no more, as it was DISMISSED", 0, TWO.determined(0, 0, 1, 1).later(481), x -> x.revise(0),
+                    x -> x.holders(0));
         });
         test(26, "@throws IndexOutOfBoundsException if there is no such place", () -> {
             refuses("holders", INDEX, RICH, (x, n) -> x.holders(n), outside(16));
@@ -425,7 +452,8 @@ final class EdgesOfClaims extends Edge {
             takes("no claims", 0, ONE, x -> x.may(0, 0, 0));
             takes("REGISTERED", 0, ONE.registered(0, 0, 1, 31), x -> x.may(0, 0, 0));
             takes("a right that yields, but is not left", 0, ONE.determined(0, 0, 1, 31)
-                    .then(x -> x.act(0, 1, 1, Songlinebench.YIELD, NONE)).then(x -> x.act(0, 1, 1, Songlinebench.EXTINGUISHES, NONE)),
+                    .then(x -> x.act(0, 1, 1, Songlinebench.YIELD, NONE))
+                            .then(x -> x.act(0, 1, 1, Songlinebench.EXTINGUISHES, NONE)),
                     x -> x.may(0, 0, 0));
             takes("a right that yields, but was not claimed", 0, ONE.determined(0, 0, 1, 30)
                     .then(x -> x.act(0, 1, 1, Songlinebench.YIELD, NONE)), x -> x.may(0, 0, 0));
@@ -480,6 +508,7 @@ final class EdgesOfClaims extends Edge {
             takes("suspended no more", 1, both.later(4), x -> x.may(0, 0, 0));
             takes("by two, of which one was given up", 1, act.then(x -> x.act(0, 1, 1, Songlinebench.YIELD, NONE)),
                     x -> x.giveUp(0), x -> x.may(0, 0, 0));
+            takes("by two at once", 1, act, x -> x.act(0, 1, 1, Songlinebench.YIELD, NONE), x -> x.may(0, 0, 0));
             takes("by the fortieth", 1, held.times(39, (x, n) -> x.act(0, 2, 1, Songlinebench.YIELD, NONE)),
                     x -> x.act(0, 1, 1, Songlinebench.YIELD, NONE), x -> x.may(0, 0, 0));
         });

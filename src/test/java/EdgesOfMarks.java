@@ -17,12 +17,16 @@ final class EdgesOfMarks extends Edge {
     private static void mark() {
         Scene all = EMPTY.peoples(6);
         test(12, "`people`: the number of a people", () -> {
-            takes("the first", 1, all.then(x -> x.mark(0, 0, 0, 9)).then(x -> x.mark(0, 0, 0, 9)), x -> x.isProved(0, 0) ? 1 : 0);
-            takes("the last", 1, all.then(x -> x.mark(5, 0, 0, 9)).then(x -> x.mark(5, 0, 0, 9)), x -> x.isProved(5, 0) ? 1 : 0);
+            takes("the first", 1, all.then(x -> x.mark(0, 0, 0, 9)).then(x -> x.mark(0, 0, 0, 9)),
+                    x -> x.isProved(0, 0) ? 1 : 0);
+            takes("the last", 1, all.then(x -> x.mark(5, 0, 0, 9)).then(x -> x.mark(5, 0, 0, 9)),
+                    x -> x.isProved(5, 0) ? 1 : 0);
         });
         test(12, "`place`: a place", () -> {
-            takes("the first", 1, all.then(x -> x.mark(0, 0, 0, 9)).then(x -> x.mark(0, 0, 0, 9)), x -> x.isProved(0, 0) ? 1 : 0);
-            takes("the last", 1, all.then(x -> x.mark(0, 15, 0, 9)).then(x -> x.mark(0, 15, 0, 9)), x -> x.isProved(0, 15) ? 1 : 0);
+            takes("the first", 1, all.then(x -> x.mark(0, 0, 0, 9)).then(x -> x.mark(0, 0, 0, 9)),
+                    x -> x.isProved(0, 0) ? 1 : 0);
+            takes("the last", 1, all.then(x -> x.mark(0, 15, 0, 9)).then(x -> x.mark(0, 15, 0, 9)),
+                    x -> x.isProved(0, 15) ? 1 : 0);
         });
         test(12, "`month`: 0 to now", () -> {
             takes("0", 1, all.later(7), x -> x.mark(0, 0, 0, 1));
@@ -31,12 +35,15 @@ final class EdgesOfMarks extends Edge {
             takes("now, which is 5000", 1, all.later(5000), x -> x.mark(0, 0, 5000, 1));
         });
         test(12, "`weight`: 1 to 9", () -> {
-            takes("the lowest", 1, all.then(x -> x.mark(0, 0, 0, 9)), x -> x.mark(0, 0, 0, 1), x -> x.isProved(0, 0) ? 1 : 0);
-            takes("the highest", 1, all.then(x -> x.mark(0, 0, 0, 1)), x -> x.mark(0, 0, 0, 9), x -> x.isProved(0, 0) ? 1 : 0);
+            takes("the lowest", 1, all.then(x -> x.mark(0, 0, 0, 9)), x -> x.mark(0, 0, 0, 1),
+                    x -> x.isProved(0, 0) ? 1 : 0);
+            takes("the highest", 1, all.then(x -> x.mark(0, 0, 0, 1)), x -> x.mark(0, 0, 0, 9),
+                    x -> x.isProved(0, 0) ? 1 : 0);
         });
         test(12, "there are at most 60", () -> {
             for (int count = 0; count < 60; count++) {
-                takes("mark", count + 1, all.times(count, (x, n) -> x.mark(n % 6, n % 16, 0, n % 9 + 1)), x -> x.mark(5, 15, 0, 9));
+                takes("mark", count + 1, all.times(count, (x, n) -> x.mark(n % 6, n % 16, 0, n % 9 + 1)),
+                        x -> x.mark(5, 15, 0, 9));
             }
         });
     }
@@ -93,6 +100,9 @@ final class EdgesOfMarks extends Edge {
                 takes("explain", count + 1, all.times(count, (x, n) -> x.explain(5, n, n)), x -> x.explain(5, 0, 5000));
                 takes("explain of another", 1, all.times(count, (x, n) -> x.explain(5, n, n)), x -> x.explain(4, 0, 0));
             }
+            takes("the ninth that there is, which is of another", 0, all.proved(0, 0)
+                    .times(8, (x, n) -> x.explain(0, 1, 5000))
+                    .explained(1).later(481), x -> x.isProved(0, 0) ? 1 : 0);
             takes("the eighth time counts", 1, all.proved(0, 0).times(7, (x, n) -> x.explain(0, 1, 5000)).later(481),
                     x -> x.explain(0, 0, 481), x -> x.isProved(0, 0) ? 1 : 0);
         });
@@ -176,6 +186,14 @@ final class EdgesOfMarks extends Edge {
             proves("the later ones first", true, marked(1440, 960, 1440, 480));
             proves("the one between last", true, marked(1440, 480, 1440, 960));
             proves("the wrong way round, with a gap", false, marked(1440, 1440, 959, 478));
+            Scene others = EMPTY.peoples(2).later(9).then(x -> x.mark(1, 0, 9, 9)).then(x -> x.mark(0, 1, 8, 9))
+                    .then(x -> x.mark(1, 1, 7, 9)).then(x -> x.mark(0, 0, 6, 4)).then(x -> x.mark(1, 1, 5, 1))
+                    .then(x -> x.mark(0, 0, 4, 5));
+            proves("the wrong way round, with others between: a weight of 9", false, others);
+            proves("the wrong way round, with others between: a weight of 10", true, others
+                    .then(x -> x.mark(0, 0, 3, 1)));
+            takes("the others, of whom one is proved elsewhere", 1, others, x -> x.isProved(1, 1) ? 1 : 0);
+            takes("the others, of whom one is not proved there", 0, others, x -> x.isProved(1, 0) ? 1 : 0);
             proves("of the same month", true, marked(480, 480, 480, 480));
             proves("one between of another place", false, marked(960, 960, 960).then(x -> x.mark(0, 1, 480, 9)));
             proves("one between of another people", false, marked(960, 960, 960).then(x -> x.mark(1, 0, 480, 9)));

@@ -6,7 +6,8 @@ final class EdgesOfPayments extends Edge {
     private static final int MOST = 1000000;
 
     /** The people 0 holds the place 0, which has a value of 1000. */
-    private static final Scene HELD = EMPTY.peoples(1).proved(0, 0).explained(0).determined(0, 0, 1, 1).then(x -> x.value(0, 1000));
+    private static final Scene HELD = EMPTY.peoples(1).proved(0, 0).explained(0).determined(0, 0, 1, 1)
+            .then(x -> x.value(0, 1000));
     /** The same, and an act of the month 0 took PASS there: 100, and 50. */
     private static final Scene TAKEN = HELD.then(x -> x.act(0, 1, 1, EXTINGUISHES, NONE));
 
@@ -79,16 +80,20 @@ final class EdgesOfPayments extends Edge {
                     x -> x.act(0, 1, 1, EXTINGUISHES, NONE), x -> x.owed(39));
         });
         test(35, "For each place of it that is held by some people", () -> {
-            takes("held by nobody", 0, EMPTY.then(x -> x.value(0, 1000)), x -> x.act(0, 1, 31, EXTINGUISHES, NONE), x -> x.owed(0));
-            takes("held by nobody any more", 0, EMPTY.peoples(1).proved(0, 0).determined(0, 0, 1, 1).then(x -> x.value(0, 1000))
+            takes("held by nobody", 0, EMPTY.then(x -> x.value(0, 1000)), x -> x.act(0, 1, 31, EXTINGUISHES, NONE),
+                    x -> x.owed(0));
+            takes("held by nobody any more", 0, EMPTY.peoples(1).proved(0, 0).determined(0, 0, 1, 1)
+                    .then(x -> x.value(0, 1000))
                     .then(x -> x.act(0, 1, 31, EXTINGUISHES, NONE)).later(481), x -> x.revise(0), x -> x.owed(0));
             takes("of a claim that is REGISTERED", 0, EMPTY.peoples(1).proved(0, 0).registered(0, 0, 1, 1)
                     .then(x -> x.value(0, 1000)), x -> x.act(0, 1, 31, EXTINGUISHES, NONE), x -> x.owed(0));
-            takes("held, but not a place of it", 0, HELD, x -> x.act(0, 0xFFFE, 31, EXTINGUISHES, NONE), x -> x.owed(0));
+            takes("held, but not a place of it", 0, HELD, x -> x.act(0, 0xFFFE, 31, EXTINGUISHES, NONE),
+                    x -> x.owed(0));
             Scene ends = EMPTY.peoples(1).proved(0, 0).proved(0, 15).determined(0, 0, 65535, 1)
                     .times(16, (x, n) -> x.value(n, 100 * n + 100)).then(x -> x.act(0, 65535, 1, EXTINGUISHES, NONE));
             takes("the places 0 and 15 of all", 10 + 5 + 160 + 80, ends, x -> x.owed(0));
-            takes("held without the rights that it took", 150, HELD.then(x -> x.act(0, 1, 1, EXTINGUISHES, NONE)), x -> x.owed(0));
+            takes("held without the rights that it took", 150, HELD.then(x -> x.act(0, 1, 1, EXTINGUISHES, NONE)),
+                    x -> x.owed(0));
         });
     }
 
@@ -96,7 +101,8 @@ final class EdgesOfPayments extends Edge {
         test(36, "An act that EXTINGUISHES, is not void, and is not given up, can be paid for once", () -> {
             takes("once", 150, TAKEN, x -> x.pay(0));
             refuses("twice", STATE, TAKEN.then(x -> x.pay(0)), x -> x.pay(0));
-            refuses("twice, with a higher value", STATE, TAKEN.then(x -> x.pay(0)).then(x -> x.value(0, MOST)).later(50), x -> x.pay(0));
+            refuses("twice, with a higher value", STATE, TAKEN.then(x -> x.pay(0))
+                    .then(x -> x.value(0, MOST)).later(50), x -> x.pay(0));
             refuses("twice, as it is void and validated", STATE, TAKEN.then(x -> x.pay(0)).then(x -> x.voids(0, true))
                     .then(x -> x.voids(0, false)), x -> x.pay(0));
             refuses("void", STATE, TAKEN.then(x -> x.voids(0, true)), x -> x.pay(0));
@@ -113,11 +119,14 @@ final class EdgesOfPayments extends Edge {
             long half = 150 + 150 * 10 / 1000 + 75;
             takes("alone", whole, one, x -> x.owed(0));
             takes("another of a month earlier", half, one, x -> x.act(4, 1, 1, EXTINGUISHES, NONE), x -> x.owed(0));
-            takes("another of the same month, with a higher number", whole, one, x -> x.act(5, 1, 1, EXTINGUISHES, NONE), x -> x.owed(0));
+            takes("another of the same month, with a higher number", whole, one,
+                    x -> x.act(5, 1, 1, EXTINGUISHES, NONE), x -> x.owed(0));
             takes("another of a month later", whole, one, x -> x.act(6, 1, 1, EXTINGUISHES, NONE), x -> x.owed(0));
-            takes("the one of the same month, with a lower number", 0, one, x -> x.act(5, 1, 1, EXTINGUISHES, NONE), x -> x.owed(1));
+            takes("the one of the same month, with a lower number", 0, one, x -> x.act(5, 1, 1, EXTINGUISHES, NONE),
+                    x -> x.owed(1));
             takes("the one of an earlier month", 0, one, x -> x.act(6, 1, 1, EXTINGUISHES, NONE), x -> x.owed(1));
-            takes("the one of a later month", 100 + 1 + 50, one, x -> x.act(4, 1, 1, EXTINGUISHES, NONE), x -> x.owed(1));
+            takes("the one of a later month", 100 + 1 + 50, one, x -> x.act(4, 1, 1, EXTINGUISHES, NONE),
+                    x -> x.owed(1));
             takes("by the last of 40", 0, HELD.times(39, (x, n) -> x.act(0, 1, 1, EXTINGUISHES, NONE)),
                     x -> x.act(0, 1, 1, EXTINGUISHES, NONE), x -> x.owed(39));
             takes("by the first of 40", 150, HELD.times(39, (x, n) -> x.act(0, 1, 1, EXTINGUISHES, NONE)),
@@ -150,8 +159,10 @@ final class EdgesOfPayments extends Edge {
             int[] weights = {10, 15, 15, 20, 40};
             for (int right = 0; right < 5; right++) {
                 int which = right;
-                takes("the right " + right, weights[right] * 15, HELD, x -> x.act(0, 1, 1 << which, EXTINGUISHES, NONE), x -> x.owed(0));
-                takes("all but " + right, (100 - weights[right]) * 15, HELD, x -> x.act(0, 1, 31 - (1 << which), EXTINGUISHES, NONE),
+                takes("the right " + right, weights[right] * 15, HELD,
+                        x -> x.act(0, 1, 1 << which, EXTINGUISHES, NONE), x -> x.owed(0));
+                takes("all but " + right, (100 - weights[right]) * 15, HELD,
+                        x -> x.act(0, 1, 31 - (1 << which), EXTINGUISHES, NONE),
                         x -> x.owed(0));
             }
             takes("all", 1500, HELD, x -> x.act(0, 1, 31, EXTINGUISHES, NONE), x -> x.owed(0));
@@ -160,7 +171,8 @@ final class EdgesOfPayments extends Edge {
 
     /** What is owed for BURN (15) at a place of that value, so many months behind the act. */
     private static long owedFor(int value, int months) {
-        return HELD.then(x -> x.value(0, value)).then(x -> x.act(0, 1, 4, EXTINGUISHES, NONE)).later(months).made().owed(0);
+        return HELD.then(x -> x.value(0, value))
+                .then(x -> x.act(0, 1, 4, EXTINGUISHES, NONE)).later(months).made().owed(0);
     }
 
     private static void rounded() {
@@ -190,7 +202,8 @@ final class EdgesOfPayments extends Edge {
             due("2.85, and 1.996", 2 + 1 + 1, owedFor(19, 499));
             due("a base of 5, each part with a rest", 5 + 4 + 2, owedFor(34, 499));
             takes("the places by themselves", 1 + 1, EMPTY.peoples(1).proved(0, 0).proved(0, 1).determined(0, 0, 3, 1)
-                    .then(x -> x.value(0, 19)).then(x -> x.value(1, 19)), x -> x.act(0, 3, 1, EXTINGUISHES, NONE), x -> x.owed(0));
+                    .then(x -> x.value(0, 19)).then(x -> x.value(1, 19)), x -> x.act(0, 3, 1, EXTINGUISHES, NONE),
+                            x -> x.owed(0));
         });
     }
 
@@ -203,15 +216,19 @@ final class EdgesOfPayments extends Edge {
     private static void largest() {
         long most = 16L * (MOST + MOST * 10L + MOST / 2);
         test(35, "For each place of it that is held by some people: the base is the value times the weights", () -> {
-            takes("one right at one place", 400000 + 4000000 + 200000, highest(), x -> x.act(0, 1, 16, EXTINGUISHES, NONE), x -> x.owed(0));
-            takes("all rights at one place", MOST + MOST * 10 + MOST / 2, highest(), x -> x.act(0, 1, 31, EXTINGUISHES, NONE), x -> x.owed(0));
-            takes("all rights at all places", most, highest(), x -> x.act(0, 65535, 31, EXTINGUISHES, NONE), x -> x.owed(0));
+            takes("one right at one place", 400000 + 4000000 + 200000, highest(),
+                    x -> x.act(0, 1, 16, EXTINGUISHES, NONE), x -> x.owed(0));
+            takes("all rights at one place", MOST + MOST * 10 + MOST / 2, highest(),
+                    x -> x.act(0, 1, 31, EXTINGUISHES, NONE), x -> x.owed(0));
+            takes("all rights at all places", most, highest(), x -> x.act(0, 65535, 31, EXTINGUISHES, NONE),
+                    x -> x.owed(0));
         });
         test(37, "Returns what was paid to a people.", () -> {
             Scene often = highest();
             for (int time = 0; time < 40; time++) {
                 int act = time;
-                often = often.then(x -> x.act(0, 65535, 31, EXTINGUISHES, NONE)).then(x -> x.pay(act)).then(x -> x.giveUp(act));
+                often = often.then(x -> x.act(0, 65535, 31, EXTINGUISHES, NONE)).then(x -> x.pay(act))
+                        .then(x -> x.giveUp(act));
             }
             takes("as often as there can be acts, which is more than an int holds", 40 * most, often, x -> x.paid(0));
         });
@@ -222,14 +239,17 @@ final class EdgesOfPayments extends Edge {
             takes("the first", 150, TAKEN, x -> x.pay(0));
             takes("the last", 150, HELD.times(39, (x, n) -> x.act(0, 2, 1, YIELD, NONE)),
                     x -> x.act(0, 1, 1, EXTINGUISHES, NONE), x -> x.pay(39));
-            takes("the last, and no other", 225, TAKEN.then(x -> x.act(0, 1, 3, EXTINGUISHES, NONE)).then(x -> x.act(0, 1, 2,
+            takes("the last, and no other", 225, TAKEN.then(x -> x.act(0, 1, 3, EXTINGUISHES, NONE))
+                    .then(x -> x.act(0, 1, 2,
                     EXTINGUISHES, NONE)), x -> x.pay(0), x -> x.pay(1));
         });
         test(36, "Returns what is paid.", () -> {
-            takes("the least: a base of 1, without a half", 1, HELD.then(x -> x.value(0, 10)), x -> x.act(0, 1, 1, EXTINGUISHES, NONE),
+            takes("the least: a base of 1, without a half", 1, HELD.then(x -> x.value(0, 10)),
+                    x -> x.act(0, 1, 1, EXTINGUISHES, NONE),
                     x -> x.pay(0));
             takes("at two places", 15 + 30, EMPTY.peoples(1).proved(0, 0).proved(0, 15).determined(0, 0, 65535, 1)
-                    .then(x -> x.value(0, 100)).then(x -> x.value(15, 200)), x -> x.act(0, 65535, 1, EXTINGUISHES, NONE), x -> x.pay(0));
+                    .then(x -> x.value(0, 100)).then(x -> x.value(15, 200)),
+                            x -> x.act(0, 65535, 1, EXTINGUISHES, NONE), x -> x.pay(0));
         });
     }
 
@@ -323,6 +343,7 @@ final class EdgesOfPayments extends Edge {
             refuses("to 5001, by 600", STATE, EMPTY.later(4401), x -> x.pass(600));
             refuses("from 5000", STATE, EMPTY.later(5000), (x, n) -> x.pass(n), 1, 600);
         });
-        test(38, FIRST_NAMED, () -> refuses("months from 5000", ARGUMENT, EMPTY.later(5000), (x, n) -> x.pass(n), 0, -1, 601, HIGHEST));
+        test(38, FIRST_NAMED, () -> refuses("months from 5000", ARGUMENT, EMPTY.later(5000), (x, n) -> x.pass(n), 0,
+                -1, 601, HIGHEST));
     }
 }

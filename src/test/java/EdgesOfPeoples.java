@@ -79,7 +79,8 @@ final class EdgesOfPeoples extends Edge {
     /** One for each exception of each call. */
     private static List<Probes.Ask> refusals() {
         List<Probes.Ask> wrong = new ArrayList<>(List.of(x -> x.people(3), x -> x.person(6, 0), x -> x.person(0, 0),
-                x -> x.root(3, 5, true), x -> x.root(0, 6, true), x -> x.adopt(5, 6), x -> x.adopt(5, 5), x -> x.raise(6),
+                x -> x.root(3, 5, true), x -> x.root(0, 6, true), x -> x.adopt(5, 6), x -> x.adopt(5, 5),
+                        x -> x.raise(6),
                 x -> x.raise(0), x -> x.members(3), x -> x.story(3), x -> x.part(2, 0, 0), x -> x.part(0, 0, 4)));
         wrong.addAll(List.of(x -> x.hears(0, 0, 3), x -> x.told(6), x -> x.mark(3, 0, 0, 1), x -> x.mark(0, 0, 507, 1),
                 x -> x.explain(3, 0, 0), x -> x.explain(2, 1, 0), x -> x.isProved(3, 0) ? 1 : 0,
@@ -295,7 +296,8 @@ final class EdgesOfPeoples extends Edge {
                 Scene fathers = line.times(29, (x, n) -> x.person(NONE, n)).then(x -> x.root(0, 0, true));
                 takes("29 mothers, by " + rule, rule == FATHER ? 1 : (1 << 30) - 1, mothers, x -> x.members(0));
                 takes("29 fathers, by " + rule, rule == MOTHER ? 1 : (1 << 30) - 1, fathers, x -> x.members(0));
-                takes("an adopted person of lower number and her line, by " + rule, rule == FATHER ? 1 << 29 | 1 : -1 >>> 2,
+                takes("an adopted person of lower number and her line, by " + rule,
+                        rule == FATHER ? 1 << 29 | 1 : -1 >>> 2,
                         mothers.then(x -> x.adopt(0, 29)).then(x -> x.root(0, 29, true)).then(x -> x.root(0, 0, false)),
                         x -> x.members(0));
             }

@@ -16,7 +16,8 @@ final class EdgesOfStories extends Edge {
         test(8, "`people`: the number of a people", () -> {
             takes("the first", 0, EMPTY.peoples(6), x -> x.story(0));
             takes("the last", 0, EMPTY.peoples(6), x -> x.story(5));
-            Scene ofLast = EMPTY.peoples(6).then(x -> x.story(5)).then(x -> x.part(0, 7, 1)).times(6, (x, n) -> x.raise(n));
+            Scene ofLast = EMPTY.peoples(6).then(x -> x.story(5)).then(x -> x.part(0, 7, 1))
+                    .times(6, (x, n) -> x.raise(n));
             takes("the last, of whom it is", 7, ofLast, x -> x.hears(5, 0, 0));
             takes("the last but one, of whom it is not", NONE, ofLast, x -> x.hears(4, 0, 0));
         });
@@ -99,7 +100,8 @@ final class EdgesOfStories extends Edge {
             takes("the last of the last", 13, two, x -> x.hears(0, 9, 11));
         });
         test(10, "parts are numbered from 0", () -> {
-            takes("the only one", 9, EMPTY.peoples(1).then(x -> x.story(0)).then(x -> x.part(0, 9, 0)), x -> x.hears(0, 0, 0));
+            takes("the only one", 9, EMPTY.peoples(1).then(x -> x.story(0)).then(x -> x.part(0, 9, 0)),
+                    x -> x.hears(0, 0, 0));
             for (int part = 0; part < 12; part++) {
                 int which = part;
                 takes("part", part + 4, two, x -> x.hears(1, 0, which));
@@ -122,7 +124,8 @@ final class EdgesOfStories extends Edge {
         test(10, "NONE if the person may not hear the part", () -> {
             takes("a member of rank 0", NONE, told, x -> x.hears(0, 0, 1));
             takes("a stranger", NONE, told, x -> x.hears(1, 0, 3));
-            takes("a place that may be heard, though it is the place 0", 0, told, x -> x.part(0, 0, 0), x -> x.hears(1, 0, 4));
+            takes("a place that may be heard, though it is the place 0", 0, told, x -> x.part(0, 0, 0),
+                    x -> x.hears(1, 0, 4));
         });
         test(10, "A person may hear a part, if its level is 0", () -> {
             takes("a stranger of rank 0", 6, told, x -> x.hears(1, 0, 0));
@@ -140,7 +143,8 @@ final class EdgesOfStories extends Edge {
                 }
                 if (rank > 0) {
                     takes("the level below the rank " + rank, rank + 5, raised, x -> x.hears(0, 0, same - 1));
-                    takes("of one who belongs no more", NONE, raised, x -> x.root(0, 0, false), x -> x.hears(0, 0, same));
+                    takes("of one who belongs no more", NONE, raised, x -> x.root(0, 0, false),
+                            x -> x.hears(0, 0, same));
                 }
             }
         });
@@ -155,7 +159,8 @@ final class EdgesOfStories extends Edge {
             takes("the place 0 of the last", 1 << 15 | 1, two, x -> x.part(9, 0, 0), x -> x.told(0));
             takes("the same place twice", 1 << 15, two, x -> x.part(9, 15, 0), x -> x.told(0));
             takes("none of a higher level", 1 << 15, two, x -> x.part(9, 0, 1), x -> x.told(0));
-            Scene all = EMPTY.peoples(1).times(10, (x, n) -> x.story(0)).times(120, (x, n) -> x.part(n / 12, n % 16, n % 4))
+            Scene all = EMPTY.peoples(1).times(10, (x, n) -> x.story(0))
+                    .times(120, (x, n) -> x.part(n / 12, n % 16, n % 4))
                     .times(3, (x, n) -> x.raise(0));
             takes("all", 65535, all, x -> x.told(0));
             takes("the last part of the last story", 1 << 15,

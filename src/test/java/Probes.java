@@ -51,7 +51,8 @@ final class Probes {
     }
 
     private static List<List<Ask>> rows() {
-        return List.of(asked(), mayRow(), counted(), persons(), acts(), roots(), claims(), agreed(), proceeded(), paid());
+        return List.of(asked(), mayRow(), counted(), persons(), acts(), roots(), claims(), agreed(), proceeded(),
+                paid());
     }
 
     private static List<Ask> asked() {
