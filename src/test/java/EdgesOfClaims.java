@@ -125,6 +125,10 @@ final class EdgesOfClaims extends Edge {
             refuses("DETERMINED", STATE, RICH, x -> vote(x, 0, 1, true));
             refuses("REGISTERED", STATE, RICH, x -> vote(x, 0, 2, true));
             refuses("a stranger's yes", STATE, RICH, x -> vote(x, 1, 3, true));
+            Scene stranger = ONE.then(x -> x.person(NONE, NONE)).then(x -> x.claim(0, 1, 1));
+            refuses("a stranger's yes, which would be the only vote", STATE, stranger, x -> vote(x, 1, 0, true));
+            refuses("a stranger's no, which would be a half of the votes", STATE, stranger.then(x -> x.vote(0, 0, true)),
+                    x -> vote(x, 1, 0, false));
             refuses("a stranger's no", STATE, RICH, x -> vote(x, 1, 3, false));
             refuses("one who belongs no more", STATE, ONE.filed(0, 0, 1, 1).then(x -> x.root(0, 0, false)),
                     x -> vote(x, 0, 0, false));
@@ -354,6 +358,7 @@ final class EdgesOfClaims extends Edge {
             takes("granted, REGISTERED", 0, RICH, x -> x.ofClaim(2, 1));
             takes("granted, FILED", 0, RICH, x -> x.ofClaim(3, 1));
             takes("month, FILED", NONE, RICH, x -> x.ofClaim(3, 3));
+            takes("month, DISMISSED", 0, RICH, x -> x.ofClaim(0, 3));
             takes("month, REGISTERED", 500, RICH, x -> x.ofClaim(2, 3));
             takes("month 0", 0, ONE.registered(0, 0, 1, 1).later(9), x -> x.ofClaim(0, 3));
             takes("month 5000", 5000, ONE.explained(0).later(5000).registered(0, 0, 1, 1), x -> x.ofClaim(0, 3));
