@@ -5,26 +5,14 @@ import java.util.ArrayList;
 import java.util.List;
 import java.util.Set;
 import java.util.TreeSet;
-import java.util.regex.Matcher;
-import java.util.regex.Pattern;
 
-/** The document, so that a test can quote only what stands there, and no sentence with a boundary is left untested. */
+/** The document, so that a test can quote only what stands there, and no sentence of it is left untested. */
 final class Document {
     private static final Path WHERE = Path.of("../shared/DOC.md");
     private static final String TEXT = read();
     private static final String TERMS = part("## Terms", "The constants:");
+    private static final String HEADING_WITHOUT_SIGN = "Peoples, stories";
     private static final Set<String> quotes = new TreeSet<>();
-
-    /** How the pieces of "Terms" begin that name no boundary; all others must be quoted. */
-    private static final String[] WITHOUT_BOUNDARY = {
-        "Persons, stories, marks, acts, claims, votes, notices and months come by calls",
-        "who belongs, what may be heard, rights, holders and sums are asked", "Months are counted",
-        "There are the rights PASS, HUNT, BURN, SPEAK and EXCLUDE", "Peoples, stories",
-        "A mark is of a people, at a place, in a month, of some weight", "It may be void, or be validated",
-        "a claim is of a people, for places and rights", "It is FILED, REGISTERED, DETERMINED or DISMISSED",
-        "Its tests are", "A DETERMINED one may be revised", "It WAITS, is DONE, or REFUSED", "A party may agree",
-        "it is allowed, or REFUSED",
-    };
 
     private Document() {
     }
@@ -57,42 +45,46 @@ final class Document {
     /** To be called behind the tests. */
     static void isQuotedWhole() {
         for (int number = 1; number <= 38; number++) {
-            for (String sentence : boundaries(promise(number))) {
+            for (String sentence : sentences(promise(number))) {
                 Due.due("promise " + number + ": a test of \"" + sentence + "\"", true,
-                        quotes.contains(number + " " + sentence));
+                        isPromiseTested(number, sentence));
             }
         }
         for (String piece : TERMS.split("(?<=[.;:])\\s+|\\n+")) {
-            Due.due("Terms: a test of \"" + piece + "\"", true, isTested(piece));
+            Due.due("Terms: a test of \"" + piece + "\"", true, isTermTested(piece));
         }
     }
 
-    /** What arguments there are, what is thrown, and answers that are told for want of something. */
-    private static List<String> boundaries(String promise) {
+    /** What stands below the heading of a promise, but for the call's signature, which FaceTest looks at. */
+    private static List<String> sentences(String promise) {
         List<String> found = new ArrayList<>();
-        Pattern kinds = Pattern.compile("(?m)^- (`\\w+`: (?!whether).*)$|^(Throws .*)$|(@throws .*)$"
-                + "|^Returns.*?((?:NONE|0) if [^.,;]*)");
-        Matcher matcher = kinds.matcher(promise);
-        while (matcher.find()) {
-            for (int group = 1; group <= matcher.groupCount(); group++) {
-                if (matcher.group(group) != null) {
-                    found.add(matcher.group(group));
-                }
-            }
+        String[] lines = promise.split("\\n+");
+        for (int line = 1; line < lines.length; line++) {
+            String words = lines[line].replaceFirst("^`[^`]*\\)[^`]*`: ", "").replaceFirst("^- ", "");
+            found.addAll(List.of(words.split("(?<=[.]) (?=[A-Z@])")));
         }
         return found;
     }
 
-    private static boolean isTested(String piece) {
-        if (piece.isBlank() || piece.startsWith("#")) {
-            return true;
-        }
-        for (String start : WITHOUT_BOUNDARY) {
-            if (piece.startsWith(start)) {
-                return true;
+    private static boolean isPromiseTested(int number, String sentence) {
+        for (String clause : sentence.split("; ")) {
+            String bare = bare(clause);
+            if (quotes.stream().noneMatch(quote -> quote.startsWith(number + " ") && quote.contains(bare))) {
+                return false;
             }
         }
-        String bare = piece.replaceAll("[.;:]$", "");
+        return true;
+    }
+
+    private static boolean isTermTested(String piece) {
+        if (piece.isBlank() || piece.startsWith("#") || piece.equals(HEADING_WITHOUT_SIGN)) {
+            return true;
+        }
+        String bare = bare(piece);
         return quotes.stream().anyMatch(quote -> quote.contains(bare) || bare.contains(quote));
+    }
+
+    private static String bare(String piece) {
+        return piece.replaceAll("[.;:]$", "");
     }
 }

@@ -1,8 +1,8 @@
 /**
- * Each sentence of the document that names a boundary case: what is taken last and refused first on either side of a
- * limit, which exception goes first, and that a refused call changes nothing.
+ * Each sentence of the document. Of those that name a boundary: what is taken last and refused first on either side of
+ * a limit, which exception goes first, and that a refused call changes nothing.
  */
-public final class EdgesTest {
+public final class SentencesTest {
     public static void main(String[] args) {
         EdgesOfPeoples.tests();
         EdgesOfStories.tests();
@@ -11,6 +11,7 @@ public final class EdgesTest {
         EdgesOfClaims.tests();
         EdgesOfNotices.tests();
         EdgesOfPayments.tests();
+        PlainSentences.tests();
         Document.isQuotedWhole();
         Due.end();
     }
